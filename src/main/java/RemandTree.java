@@ -176,7 +176,7 @@ public final class RemandTree {
         needAppeal();
         needRoomForNode();
         court.judge(zero, one);
-        court.record(nodes[nodeCount], now, nodeCount);
+        court.makeNode(nodes[nodeCount], now, nodeCount);
         return takeNewNode();
     }
 
@@ -710,7 +710,7 @@ public final class RemandTree {
             wipe();
         }
 
-        private void wipe() {
+        void wipe() {
             for (int k = 0; k < MOST_ISSUES * NAME_LENGTH; k++) {
                 letters[k] = 0;
             }
@@ -1253,9 +1253,9 @@ public final class RemandTree {
             rounds = 1;
         }
 
-        void beginRound(Node from, int its) {
+        void beginRound(Node from, int number) {
             copyIssues(from);
-            becomeRound(its, from.open);
+            becomeRound(number, from.open);
             rounds = from.rounds + 1;
         }
 
@@ -1343,9 +1343,9 @@ public final class RemandTree {
         private Text text = new Text();
         private Node from = new Node();
         private Node before = from;
-        private int level;
-        private int winner;
-        private int anew;
+        private int level = 1;
+        private int winner = 0;
+        private int anew = 0;
         /** By sides: issues that would be heard, and those of them that would be errors. */
         final int[] heard = new int[SIDES];
         final int[] errors = new int[SIDES];
@@ -1357,16 +1357,18 @@ public final class RemandTree {
         int open;
         private final int[] briefs = new int[SIDES];
 
-        /** Whether an appeal can be made from a node; told is what stands ahead of that one, too. */
+        /** Whether an appeal can be made from a node (the one ahead of it is told, too); then all is about that. */
         boolean sit(Text itsText, Node node, Node aheadOfIt) {
             text = itsText;
             from = node;
             before = aheadOfIt;
-            level = levelFrom(node);
-            winner = text.winnerBy(from.forZero, from.open);
-            if (level == NONE || winner == NONE) {
+            int to = levelFrom(node);
+            int sure = text.winnerBy(from.forZero, from.open);
+            if (to == NONE || sure == NONE) {
                 return false;
             }
+            level = to;
+            winner = sure;
             anew = text.ofStandard(0);
             hearSide(0);
             hearSide(1);
@@ -1476,7 +1478,7 @@ public final class RemandTree {
         }
 
         /** Makes a node of what was judged. */
-        void record(Node into, int ahead, int number) {
+        void makeNode(Node into, int ahead, int number) {
             into.copyIssues(from);
             into.level = level;
             into.ahead = ahead;
@@ -1611,7 +1613,7 @@ public final class RemandTree {
 
         private void trySecond(Court court, int set, int pages) {
             court.judge(court.appellant() == 0 ? set : 0, court.appellant() == 1 ? set : 0);
-            court.record(between, NONE, 0);
+            court.makeNode(between, NONE, 0);
             if (!second.sit(court.told(), between, court.source())) {
                 return;
             }
