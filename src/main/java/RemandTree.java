@@ -307,7 +307,7 @@ public final class RemandTree {
             case 0: return told.level;
             case 1: return told.ahead;
             case 2: return told.how;
-            case 3: return told.level == 0 ? told.mandate : told.open;
+            case 3: return told.mandate;
             case 4: return told.open;
             case 5: return told.settled;
             case 6: return told.leaks;
@@ -1226,6 +1226,7 @@ public final class RemandTree {
         int level;
         int ahead;
         int how;
+        /** Of an appeal: what is open behind it. */
         int mandate;
         int forZero;
         int forOne;
@@ -1504,7 +1505,7 @@ public final class RemandTree {
          */
         int bestSet(int among, int pages) {
             int found = 0;
-            int highest = rankOf(outcomeBy(0, 0));
+            int highest = NONE;
             int set = 0;
             for (int k = 0; k < 1 << Integer.bitCount(among); k++) {
                 if (text.pagesOf(set) <= pages) {

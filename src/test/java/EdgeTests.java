@@ -9,6 +9,7 @@ public final class EdgeTests {
         AppealEdges.run();
         PlanEdges.run();
         TreeEdges.run();
+        RefusalEdges.run();
         Edge.allSaid();
         Check.close("EdgeTests");
     }

@@ -19,6 +19,7 @@ final class PlanEdges {
         chainOneOrTwo();
         chainOrder();
         chainPages();
+        chainByAffirmed();
         chainThatLeaks();
         chainRefused();
         swing();
@@ -82,6 +83,11 @@ final class PlanEdges {
         best(x, 2, 6, 2);
         RemandTree two = lost("issue a anew;issue b choice;issue c choice;claim b or c;", 3, 5);
         best(two, 99, 2, 3);
+        RemandTree unheard = Edge.of("issue a anew;issue b choice;claim a or b;");
+        Edge.rule(unheard, 0, 1, 5);
+        Edge.kept(unheard, 1, 1, 5);
+        best(unheard, 99, 2, 3);
+        best(unheard, 0, 0, 0);
     }
 
     private static void bestNone() {
@@ -295,6 +301,7 @@ final class PlanEdges {
         RemandTree kept = lost("issue a anew;issue b anew;claim a and b;bars first 9 9 9;", 2, 5);
         chained(kept, 1, 0, 0, 0);
         chained(kept, 2, 2, 3, 3);
+        chained(kept, 1, 0, 0, 0);
         RemandTree resting = Edge.of("issue a anew;issue b anew rests a;claim b;bars first 9 9 9;");
         Edge.rule(resting, 0, 1, 0);
         Edge.kept(resting, 1, 1, 5);
@@ -303,6 +310,33 @@ final class PlanEdges {
         RemandTree one = Edge.of("issue a anew;claim a;bars first 9 9 9;");
         Edge.kept(one, 0, 0, 5);
         chained(one, 1, 2, 1, 1);
+        RemandTree silent = Edge.of("issue a anew;issue b anew;claim a and b;");
+        Edge.kept(silent, 0, 0, 5);
+        Edge.kept(silent, 1, 1, 5);
+        chained(silent, 99, 2, 2, -1);
+        RemandTree eight = Edge.of(EIGHT + "a and h;bars first 9 9 9;");
+        for (int issue = 0; issue < 8; issue++) {
+            Edge.rule(eight, issue, 1, 8);
+        }
+        chained(eight, 2, 2, 0, 129);
+        chained(eight, 1, 0, 0, 0);
+        chained(eight, 99, 2, 0, 129);
+    }
+
+    /** A set at level 1 that only serves to have that appeal affirmed takes pages, too. */
+    private static void chainByAffirmed() {
+        Edge.says(Edge.TERMS, "where that APPEAL is AFFIRMED, another one for LEVEL 2 behind it");
+        RemandTree x = Edge.of("issue w anew;issue v anew rests w;issue z anew;issue y anew;claim not y and w and (v or z);"
+            + "bars first 5 4 7;bars second 4 4 7;");
+        Edge.kept(x, 0, 1, 5);
+        Edge.rule(x, 1, 1, 0);
+        Edge.kept(x, 2, 1, 4);
+        Edge.kept(x, 3, 1, 5);
+        Edge.is(x, 3, "preview", 5, 0, 0);
+        Edge.is(x, 0, "preview", 13, 0, 0);
+        chained(x, 2, 3, 1, -1);
+        chained(x, 3, 2, 13, 5);
+        chained(x, 2, 3, 1, -1);
     }
 
     private static void chainThatLeaks() {
@@ -466,6 +500,9 @@ final class PlanEdges {
         Edge.is(x, 6, "pivotal");
         Edge.rule(x, 1, 0, 0);
         Edge.is(x, 0, "pivotal");
+        RemandTree shut = Edge.of("issue a anew;issue b anew;claim a and b;");
+        Edge.rule(shut, 0, 1, 0);
+        Edge.is(shut, 0, "pivotal");
         Edge.says(29, "PIVOTAL ISSUES of NOW (bits).");
         Edge.leaves(Scenes::open, 6, "pivotal");
         Edge.leaves(Scenes::remanded, 1, "pivotal");

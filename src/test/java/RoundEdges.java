@@ -8,6 +8,7 @@ final class RoundEdges {
         whoWins();
         sure();
         roundBegins();
+        eightGoAlong();
         laterRound();
         mandateLeft();
         ruleArguments();
@@ -94,6 +95,42 @@ final class RoundEdges {
         Edge.is(y, 2, "node", 2, 5);
         Edge.is(y, 2, "node", 2, 12);
         Edge.is(y, 4, "node", 2, 13);
+        RemandTree leaks = Scenes.round();
+        Edge.is(leaks, true, "leak", 1);
+        Edge.kept(leaks, 0, 1, 5);
+        Edge.is(leaks, 3, "appeal", 1, 0);
+        Edge.is(leaks, 4, "round");
+        Edge.is(leaks, 2, "node", 4, 6);
+        Edge.is(leaks, false, "leak", 1);
+    }
+
+    /** The last of eight goes along from node to node as the first does. */
+    private static void eightGoAlong() {
+        Edge.says(Edge.TERMS, "others as in the NODE ahead.");
+        RemandTree x = Edge.of("issue a choice;issue b anew;issue c anew;issue d anew;issue e anew;issue f anew;issue g anew;"
+            + "issue h choice;claim a;");
+        for (int issue = 0; issue < 8; issue++) {
+            Edge.kept(x, issue, 1, issue == 7 ? 5 : 9 - issue);
+        }
+        Edge.is(x, 1, "appeal", 1, 0);
+        Edge.is(x, 2, "round");
+        for (int issue = 1; issue < 8; issue++) {
+            int flaw = issue == 7 ? 5 : 9 - issue;
+            Edge.row(x, new int[] {1, flaw, 0, 0}, "decided", 1, issue, Edge.IT);
+            Edge.row(x, new int[] {1, flaw, 0, 0}, "decided", 2, issue, Edge.IT);
+        }
+        Edge.ask(x, "go", 0);
+        Edge.is(x, 3, "appeal", 129, 0);
+        Edge.is(x, 129, "node", 3, 4);
+        Edge.is(x, 4, "round");
+        Edge.rule(x, 7, 0, 2);
+        Edge.rule(x, 0, 1, 3);
+        Edge.is(x, 5, "appeal", 0, 0);
+        Edge.is(x, 6, "appeal", 0, 0);
+        for (int node = 4; node <= 6; node++) {
+            Edge.row(x, new int[] {0, 2, 0, 4}, "decided", node, 7, Edge.IT);
+            Edge.row(x, new int[] {1, 3, 0, 4}, "decided", node, 0, Edge.IT);
+        }
     }
 
     private static void laterRound() {

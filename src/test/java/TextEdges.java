@@ -15,10 +15,14 @@ final class TextEdges {
         end();
         readUsesUp();
         readReplaces();
+        readOverLongNames();
+        readOverNodes();
+        readAfterWrongClaims();
         readRefused();
         fault();
         textLength();
         lines();
+        claims();
         standardsAndLevels();
         names();
         numbers();
@@ -175,6 +179,10 @@ final class TextEdges {
         Edge.is(x, 7, "bar", 2, 2);
         Edge.is(x, 0, "leaf", 0);
         Edge.is(x, -1, "child", 0, 0);
+        for (int side = 0; side <= 1; side++) {
+            Edge.is(x, 0, "tally", 0, side, -1);
+            Edge.is(x, side == 0 ? 1 : 3, "ways", side);
+        }
         Edge.is(x, 1, "rule", 0, 0, 0);
         Edge.is(x, 0, "node", 0, 13);
         Edge.tape(x, eight() + "claim h;");
@@ -183,6 +191,67 @@ final class TextEdges {
         Edge.is(x, 255, "node", 0, 4);
         Edge.is(x, 0, "issue", 1, 2);
         Edge.is(x, 1, "count", 9);
+    }
+
+    /** Nothing of longer names is left. */
+    private static void readOverLongNames() {
+        Edge.says(4, "it is THE TEXT (in place of the one before;");
+        RemandTree x = new RemandTree();
+        StringBuilder text = new StringBuilder();
+        for (char c = 'a'; c <= 'h'; c++) {
+            text.append("issue zzzzz").append(c).append(" anew;");
+        }
+        for (int times = 0; times < 3; times++) {
+            Edge.tape(x, text + "claim zzzzza;");
+            Edge.is(x, 8, "read");
+        }
+        Edge.tape(x, eight() + "claim h;");
+        Edge.is(x, 8, "read");
+        Edge.tape(x, eight() + "claim h;");
+        Edge.is(x, 8, "read");
+        for (int issue = 0; issue < 8; issue++) {
+            Edge.row(x, new int[] {'a' + issue, -1, -1, -1, -1, -1}, "name", issue, Edge.IT);
+        }
+        Edge.is(x, 128, "pivotal");
+    }
+
+    /** Rounds come where appeals were that turned and were briefed, and the other way about. */
+    private static void readOverNodes() {
+        Edge.says(4, "NODE 0 alone is there then, and NOW)");
+        RemandTree x = Edge.of(A + "issue b choice;claim a or b;");
+        Edge.kept(x, 0, 1, 5);
+        Edge.kept(x, 1, 1, 5);
+        Edge.is(x, 1, "appeal", 3, 3);
+        Edge.is(x, 2, "appeal", 3, 3);
+        Edge.is(x, 3, "node", 2, 10);
+        Edge.is(x, 1, "node", 2, 9);
+        Edge.tape(x, "issue a choice;claim a;");
+        Edge.is(x, 1, "read");
+        Edge.kept(x, 0, 1, 5);
+        Edge.is(x, 1, "appeal", 1, 0);
+        Edge.row(x, new int[] {1, 0, 3, 1, 1, 0, 0, -1, 0, 0, 1, 0, 0, 0, 1}, "node", 1, Edge.IT);
+        Edge.is(x, 2, "round");
+        Edge.row(x, new int[] {0, 1, -1, 1, 1, 0, 0, -1, -1, 0, 0, 0, 0, 0, 2}, "node", 2, Edge.IT);
+        Edge.tape(x, A + "claim a;");
+        Edge.is(x, 1, "read");
+        Edge.kept(x, 0, 1, 5);
+        Edge.is(x, 1, "appeal", 1, 0);
+        Edge.is(x, 2, "appeal", 0, 0);
+        Edge.row(x, new int[] {2, 1, 0, 0, 0, 1, 0, 0, 1, 0, 0, 0, 0, 0, 1}, "node", 2, Edge.IT);
+    }
+
+    /** Claims that were read half are gone. */
+    private static void readAfterWrongClaims() {
+        Edge.says(4, "Uses the TAPE up: it is THE TEXT");
+        RemandTree x = new RemandTree();
+        for (int times = 0; times < 3; times++) {
+            Edge.tape(x, A + "claim 1 of (" + many(40, ",") + ";");
+            Edge.is(x, Edge.ARGUMENT, "read");
+        }
+        Edge.tape(x, A + "issue b anew;claim 1 of (" + many(39, ",") + ",b);");
+        Edge.is(x, 2, "read");
+        Edge.is(x, 3, "ways", 0);
+        Edge.is(x, 40, "count", 9);
     }
 
     private static void readRefused() {
@@ -255,11 +324,37 @@ final class TextEdges {
             A + "bars^;", A + "bars first^;", A + "bars first 1^;", A + "bars first 1 2^;", A + "bars first 1 2 3 ^4;",
             A + "bars first 1^,2,3;", A + "bars first ^second 1 2 3;", A + "bars first 1 2 3 ^bars second 1 2 3;",
             A + "bars ^1 2 3;", A + "claim^;", A + "claim a;^;", A + "claim a ^claim a;", A + "claim a^,a;",
-            "issue a anew ^claim a;", A + "^first 1 2 3;"}) {
+            "issue a anew ^claim a;", A + "^first 1 2 3;", "issue a ^issue b anew;", "issue a ^claim a;",
+            "issue a ^bars first 1 2 3;", A + "bars first 1 2 ^claim a;", A + "bars first ^issue b anew;", A + "bars ^claim a;",
+            A + "claim a;^5", A + "claim a;^a", "^5", A + "claim a;^)", A + "issue b anew rests a ^claim a;", A + "claim a;^,"}) {
             Edge.wrong(marked);
         }
         Edge.right(2, A + "issue b anew rests a;claim a;");
         Edge.right(1, "bars first 1 2 3;" + A + "bars first 1 2 3;claim a;bars second 1 2 3;");
+    }
+
+    private static void claims() {
+        Edge.says(Edge.TERMS, "E: ALL { or ALL }; ALL: PART { and PART }; PART: not PART | NAME | ( E ) | NUMBER of ( E { , E } ).");
+        for (String marked : new String[] {"^;", "a or^;", "a and^;", "not^;", "not not^;", "(^);", "(a^;", "(a or^);", "a^);", "a^(a);", "a ^a;",
+            "a ^not a;", "^or a;", "^and a;", "a or ^or a;", "a or ^and a;", "a and ^or a;", "^of (a);", "1^;", "1^(a);", "1 ^a;",
+            "1 of^;", "1 of ^a;", "1 of (^);", "1 of (^;", "1 of (a,^;", "(^;", "not (^;", "not ^b;", "not (^b;", "1 of (^,a);", "1 of (a^;", "1 of (a,^);", "1 of (a,^,a);", "1 of (a ^a);", "1 ^1 of (a);",
+            "1 of ^not a;", "not ^or a;", "a or ^claim a;", "(a^,a);", "a ^2 of (a);", "1 of (a) ^a;"}) {
+            Edge.wrong(A + "claim " + marked);
+        }
+        Edge.says(Edge.TERMS, "E: ALL { or ALL }; ALL: PART { and PART }");
+        String[] claims = {"a or b and c", "(a or b) and c", "a and b or c", "not a and b", "not (a and b)", "not a or b", "not not a",
+            "1 of (a) and 1 of (b)", "2 of (a, b) or 1 of (c)", "1 of (a) and 1 of (b) and 1 of (c)", "2 of (a, b or c)"};
+        int[] ways = {5, 3, 5, 2, 6, 6, 4, 2, 5, 1, 3};
+        for (int k = 0; k < claims.length; k++) {
+            RemandTree x = Edge.of(A + "issue b anew;issue c anew;claim " + claims[k] + ";");
+            Edge.is(x, ways[k], "ways", 0);
+            Edge.is(x, 8 - ways[k], "ways", 1);
+        }
+        String[] wide = {"1 of (a and not h)", "1 of (a and not g)", "h and not g", "2 of (a, g, h)", "0 of (a) and h", "a and b and g and h"};
+        int[] wideWays = {64, 64, 64, 128, 128, 16};
+        for (int k = 0; k < wide.length; k++) {
+            Edge.is(Edge.of(eight() + "claim " + wide[k] + ";"), wideWays[k], "ways", 0);
+        }
     }
 
     private static void standardsAndLevels() {
@@ -284,7 +379,9 @@ final class TextEdges {
         Edge.says(Edge.TERMS, "NAMES: 1 to 6 letters a to z, none of issue, anew, choice, clear, rests, bars, first, second, claim, "
             + "or, and, not, of.");
         for (String name : new String[] {"a", "z", "az", "abcdef", "zzzzzz", "issu", "issues", "anews", "ane", "choic", "clears",
-            "rest", "bar", "barss", "firsts", "secon", "claims", "o", "ors", "ands", "an", "nots", "no", "ofs", "f", "r"}) {
+            "rest", "bar", "barss", "firsts", "secon", "claims", "o", "ors", "ands", "an", "nots", "no", "ofs", "f", "r",
+            "xssue", "xnew", "xhoice", "xlear", "xests", "xars", "xirst", "xecond", "xlaim", "xr", "xnd", "xot", "xf",
+            "issux", "anex", "choicx", "cleax", "restx", "barx", "firsx", "seconx", "claix", "ox", "anx", "nox"}) {
             Edge.right(1, "issue " + name + " anew;claim " + name + ";");
         }
         Edge.wrong("issue  ^anew;claim a;");
@@ -453,6 +550,11 @@ final class TextEdges {
         Edge.is(of, 2, "ways", 0);
         RemandTree fortieth = Edge.of(A + "issue b anew;claim 1 of (" + many(39, ",") + ",b);");
         Edge.is(fortieth, 3, "ways", 0);
+        for (String last : new String[] {"a or b", "a and b", "not a,not b", "a,(b)", "1 of (a,b)"}) {
+            RemandTree x = Edge.of(A + "issue b anew;claim 2 of (" + many(38, ",") + "," + last + ");");
+            Edge.is(x, 40, "count", 9);
+            Edge.is(x, last.equals("not a,not b") ? 3 : 2, "ways", 0);
+        }
         Edge.says(Edge.TERMS, "the 41st NAME");
         Edge.wrong(A + "claim " + many(40, " or ") + " or ^a;");
         Edge.wrong(A + "claim " + many(40, " and ") + " and ^b;");

@@ -402,10 +402,10 @@ final class TreeEdges {
     private static void child() {
         Edge.says(40, "The k-th NODE whose NODE ahead is a told one; NONE behind.");
         RemandTree x = Scenes.grown();
-        Edge.row(x, new int[] {1, 5, 6, -1}, "child", 0, Edge.IT);
-        Edge.row(x, new int[] {2, 7, -1}, "child", 1, Edge.IT);
-        Edge.row(x, new int[] {3, -1}, "child", 2, Edge.IT);
-        Edge.row(x, new int[] {-1, -1}, "child", 4, Edge.IT);
+        Edge.row(x, new int[] {1, 5, 6, -1, -1, -1, -1, -1}, "child", 0, Edge.IT);
+        Edge.row(x, new int[] {2, 7, -1, -1, -1, -1}, "child", 1, Edge.IT);
+        Edge.row(x, new int[] {3, -1, -1, -1}, "child", 2, Edge.IT);
+        Edge.row(x, new int[] {-1, -1, -1}, "child", 4, Edge.IT);
         Edge.row(x, new int[] {-1, -1}, "child", 7, Edge.IT);
         for (int k : new int[] {Edge.MIN, -1, 39, 40, Edge.MAX}) {
             Edge.is(x, -1, "child", 0, k);
@@ -430,6 +430,16 @@ final class TreeEdges {
         Edge.row(Scenes.full(), new int[] {1, 40, 0, 1, 39, 0, 0, 0, 39, 1, 9}, "count", Edge.IT);
         Edge.row(Scenes.deep(), new int[] {1, 40, 39, 20, 20, 0, 0, 0, 20, 1, 9}, "count", Edge.IT);
         Edge.row(new RemandTree(), new int[] {0, 1, 0, 1, 0, 0, 0, 0, 0, 0, 0}, "count", Edge.IT);
+        RemandTree y = Edge.of("issue a anew;issue b anew;issue c choice;claim a and b or c;");
+        Edge.kept(y, 0, 0, 5);
+        Edge.kept(y, 1, 1, 5);
+        Edge.kept(y, 2, 1, 5);
+        int[][] briefs = {{0, 0}, {2, 1}, {2, 1}, {2, 0}, {2, 0}, {2, 0}, {4, 0}, {4, 0}, {4, 0}, {4, 0}};
+        for (int[] brief : briefs) {
+            Edge.ask(y, "appeal", brief[0], brief[1]);
+            Edge.ask(y, "go", 0);
+        }
+        Edge.row(y, new int[] {3, 11, 0, 1, 10, 1, 2, 3, 4, 3, 0}, "count", Edge.IT);
         Edge.says(41, "NONE for another what.");
         for (int what : Edge.outside(11)) {
             Edge.leaves(Scenes::grown, -1, "count", what);
