@@ -87,8 +87,10 @@ final class Check {
     /** What was written latest. */
     static String written(RemandTree x) {
         StringBuilder out = new StringBuilder();
-        for (int k = 0; k < 1000 && x.octet(k) != RemandTree.NONE; k++) {
-            out.append((char) x.octet(k));
+        int next = x.octet(0);
+        for (int k = 1; k < 1000 && next != RemandTree.NONE; k++) {
+            out.append((char) next);
+            next = x.octet(k);
         }
         return out.toString();
     }
