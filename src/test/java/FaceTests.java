@@ -94,6 +94,11 @@ public final class FaceTests {
                 Check.due("final " + f, !constant || Modifier.isFinal(f.getModifiers()), true);
             }
             Check.due("some twenty fields " + type, fields <= 20, true);
+            for (Method m : type.getDeclaredMethods()) {
+                for (String wanted : FACE) {
+                    Check.due("a name of the face inside " + type, wanted.contains(" " + m.getName() + "("), false);
+                }
+            }
         }
     }
 
